@@ -8,6 +8,7 @@ public final class CollectTest {
 
     public static void main(String[] args) {
         collectOfNothing();
+        everyRegisterKeeps();
         theRestMovesDownInOrder();
         linksKeepWhatTheyReferTo();
         ringsGo();
@@ -33,6 +34,18 @@ public final class CollectTest {
         CHECKS.due("10: no cells", heap.count(0), 0);
         CHECKS.due("10: no objects", heap.count(1), 0);
         CHECKS.due("10: first place again", heap.make(3, false, 1), 0);
+    }
+
+    private static void everyRegisterKeeps() {
+        HeapPress heap = new HeapPress();
+        for (int r = 0; r < 16; r++) {
+            heap.make(r, true, 1);
+            heap.make(r, false, 1);
+        }
+        CHECKS.due("10: what no register has", heap.collect(), 16);
+        for (int r = 0; r < 16; r++) {
+            CHECKS.dueRegister("10: kept", heap, r, "2 " + 2 * r + " 1");
+        }
     }
 
     private static void theRestMovesDownInOrder() {
