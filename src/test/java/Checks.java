@@ -95,8 +95,26 @@ final class Checks {
         }
     }
 
-    /** Numbers that no range of the document holds. */
+    /** What an object in a register holds, a text for each content; register spare is written over. */
+    static String contents(HeapPress heap, int r, int spare) {
+        StringBuilder text = new StringBuilder();
+        int kind = heap.state(r, 0);
+        int n = heap.state(r, 2);
+        for (int i = 0; i < n; i++) {
+            if (kind == 2) {
+                text.append(heap.get(r, i));
+            } else {
+                heap.follow(spare, r, i);
+                text.append(register(heap, spare));
+            }
+            text.append("; ");
+        }
+        return text.toString();
+    }
+
+    /** Numbers that a range from 0 to below bound, at most 256, does not hold; some would if cut to a byte or short. */
     static int[] outside(int bound) {
-        return new int[] {-1, bound, bound + 1, Integer.MIN_VALUE, Integer.MAX_VALUE, -bound, bound + 256};
+        return new int[] {-1, -2, -bound, bound, bound + 1, 256, 1 << 16, 1 << 30,
+            Integer.MAX_VALUE, Integer.MAX_VALUE - 1, Integer.MIN_VALUE, Integer.MIN_VALUE + 1};
     }
 }

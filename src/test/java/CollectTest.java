@@ -20,6 +20,9 @@ public final class CollectTest {
         weakThatGoesTakesNothing();
         numbersAreNoReferences();
         countTells();
+        countOfFew();
+        countOfMany();
+        countOfCollections();
         CHECKS.end();
     }
 
@@ -246,5 +249,53 @@ public final class CollectTest {
         for (int x : Checks.outside(3)) {
             CHECKS.due("12: count(" + x + ")", heap.count(x), -1);
         }
+    }
+
+    private static void countOfFew() {
+        HeapPress heap = new HeapPress();
+        CHECKS.due("12: no cells", heap.count(0), 0);
+        CHECKS.due("12: no objects", heap.count(1), 0);
+        CHECKS.due("12: never collected", heap.count(2), 0);
+        heap.make(0, false, 0);
+        CHECKS.due("12: one cell", heap.count(0), 1);
+        CHECKS.due("12: one object", heap.count(1), 1);
+        heap.copy(1, 0);
+        CHECKS.due("12: still one object", heap.count(1), 1);
+    }
+
+    private static void countOfMany() {
+        HeapPress heap = new HeapPress();
+        for (int k = 0; k < 300; k++) {
+            heap.make(k % 16, true, 0);
+        }
+        CHECKS.due("12: all cells", heap.count(0), 300);
+        CHECKS.due("12: as many objects", heap.count(1), 300);
+        CHECKS.due("10: all but what the registers have", heap.collect(), 284);
+        CHECKS.due("12: cells left", heap.count(0), 16);
+        CHECKS.due("12: objects left", heap.count(1), 16);
+    }
+
+    // By collect, by make and weak without room, and by one that is full then; by no other call.
+    private static void countOfCollections() {
+        HeapPress heap = new HeapPress();
+        for (int r = 0; r < 7; r++) {
+            heap.make(r, true, 40);
+        }
+        heap.make(7, true, 12);
+        CHECKS.due("12: make with room", heap.count(2), 0);
+        heap.collect();
+        CHECKS.due("12: collect", heap.count(2), 1);
+        CHECKS.full("12: make", () -> heap.make(8, true, 0));
+        CHECKS.due("12: full make", heap.count(2), 2);
+        CHECKS.full("12: weak", () -> heap.weak(8, 0));
+        CHECKS.due("12: full weak", heap.count(2), 3);
+        heap.drop(7);
+        heap.make(8, false, 12);
+        CHECKS.due("12: make without room", heap.count(2), 4);
+        heap.drop(8);
+        heap.weak(9, 0);
+        CHECKS.due("12: weak without room", heap.count(2), 5);
+        heap.weak(9, 0);
+        CHECKS.due("12: weak with room", heap.count(2), 5);
     }
 }

@@ -14,11 +14,13 @@ public final class ContentTest {
 
     public static void main(String[] args) {
         linkSets();
+        linkOfForty();
         linkRefuses();
         followReads();
         followOfWeak();
         followRefuses();
         putAndGet();
+        putOfForty();
         putRefuses();
         getRefuses();
         CHECKS.end();
@@ -57,6 +59,23 @@ public final class ContentTest {
     private static void dueReference(String what, HeapPress heap, int i, String want) {
         heap.follow(15, LINKS, i);
         CHECKS.dueRegister(what, heap, 15, want);
+    }
+
+    private static void linkOfForty() {
+        for (int i = 0; i < 40; i++) {
+            HeapPress heap = new HeapPress();
+            heap.make(0, true, 40);
+            heap.make(1, true, 40);
+            heap.link(0, i, 1);
+            heap.link(1, i, 0);
+            CHECKS.due("6, 7: just reference " + i, Checks.contents(heap, 0, 15), justAt(i, NULL, "1 41 40"));
+            CHECKS.due("6, 7: just reference " + i, Checks.contents(heap, 1, 15), justAt(i, NULL, "1 0 40"));
+        }
+    }
+
+    /** Forty contents as Checks tells them: the i-th is another. */
+    private static String justAt(int i, String most, String other) {
+        return (most + "; ").repeat(i) + other + "; " + (most + "; ").repeat(39 - i);
     }
 
     private static void linkRefuses() {
@@ -150,6 +169,18 @@ public final class ContentTest {
         big.put(15, 39, -7);
         CHECKS.due("9: last number", big.get(15, 39), -7);
         CHECKS.due("9: the one before", big.get(15, 38), 0);
+    }
+
+    private static void putOfForty() {
+        for (int i = 0; i < 40; i++) {
+            HeapPress heap = new HeapPress();
+            heap.make(0, false, 40);
+            heap.make(1, false, 40);
+            heap.put(0, i, Long.MIN_VALUE);
+            heap.put(1, i, Long.MAX_VALUE);
+            CHECKS.due("8, 9: just number " + i, Checks.contents(heap, 0, 15), justAt(i, "0", "" + Long.MIN_VALUE));
+            CHECKS.due("8, 9: just number " + i, Checks.contents(heap, 1, 15), justAt(i, "0", "" + Long.MAX_VALUE));
+        }
     }
 
     private static void putRefuses() {

@@ -22,6 +22,7 @@ public final class FaceTest {
         checks.due("hidden methods of a face's name", hiddenNamesakes(), 0);
         checks.due("fields that can be seen", seenFields(), 0);
         checks.due("static fields that can change", changeableStatics(), 0);
+        checks.due("fields that are no rows of its own", strangeFields(), 0);
         checks.end();
     }
 
@@ -88,6 +89,18 @@ public final class FaceTest {
         for (Field field : HeapPress.class.getDeclaredFields()) {
             int bits = field.getModifiers();
             count += Modifier.isStatic(bits) && !Modifier.isFinal(bits) ? 1 : 0;
+        }
+        return count;
+    }
+
+    // "All memory is the class's own rows": numbers, and rows of them that no call makes anew.
+    private static int strangeFields() {
+        int count = 0;
+        for (Field field : HeapPress.class.getDeclaredFields()) {
+            Class<?> type = field.getType();
+            boolean row = type.isArray() && type.getComponentType().isPrimitive()
+                    && Modifier.isFinal(field.getModifiers());
+            count += row || type.isPrimitive() ? 0 : 1;
         }
         return count;
     }

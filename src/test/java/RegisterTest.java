@@ -10,10 +10,13 @@ public final class RegisterTest {
         newObjectIsEmpty();
         objectsAreApart();
         copyTakesOver();
+        copyOfEachToEach();
         copyRefuses();
         dropForgets();
+        dropOfEach();
         dropRefuses();
         stateTellsKinds();
+        stateTellsOfEach();
         stateRefuses();
         CHECKS.end();
     }
@@ -56,6 +59,21 @@ public final class RegisterTest {
         CHECKS.due("4: copy makes nothing", heap.count(1), 2);
     }
 
+    private static void copyOfEachToEach() {
+        for (int r = 0; r < 16; r++) {
+            for (int s = 0; s < 16; s++) {
+                HeapPress heap = new HeapPress();
+                for (int k = 0; k < 16; k++) {
+                    heap.make(k, k % 2 == 0, 1);
+                }
+                heap.copy(r, s);
+                for (int k = 0; k < 16; k++) {
+                    CHECKS.due("4: copy(" + r + ", " + s + "): " + k, heap.state(k, 1), 2 * (k == r ? s : k));
+                }
+            }
+        }
+    }
+
     private static void copyRefuses() {
         HeapPress heap = new HeapPress();
         heap.make(0, true, 2);
@@ -81,6 +99,19 @@ public final class RegisterTest {
         CHECKS.due("5: drop takes no object away", heap.count(1), 1);
         CHECKS.due("5: drop frees no cell", heap.count(0), 3);
         CHECKS.due("5: drop collects nothing", heap.count(2), 0);
+    }
+
+    private static void dropOfEach() {
+        for (int r = 0; r < 16; r++) {
+            HeapPress heap = new HeapPress();
+            for (int k = 0; k < 16; k++) {
+                heap.make(k, k % 2 == 0, 1);
+            }
+            heap.drop(r);
+            for (int k = 0; k < 16; k++) {
+                CHECKS.due("5: drop(" + r + "): " + k, heap.state(k, 1), k == r ? -1 : 2 * k);
+            }
+        }
     }
 
     private static void dropRefuses() {
@@ -109,6 +140,22 @@ public final class RegisterTest {
         heap.drop(1);
         heap.collect();
         CHECKS.dueRegister("11: WEAK whose object went", heap, 3, "3 40 1");
+    }
+
+    private static void stateTellsOfEach() {
+        HeapPress heap = new HeapPress();
+        for (int r = 0; r < 16; r++) {
+            for (int what = 0; what < 3; what++) {
+                CHECKS.due("11: of null", heap.state(r, what), what == 0 ? 0 : -1);
+            }
+            heap.make(r, r % 2 == 0, r);
+        }
+        int place = 0;
+        for (int r = 0; r < 16; r++) {
+            CHECKS.dueRegister("11: of each", heap, r, (r % 2 == 0 ? 1 : 2) + " " + place + " " + r);
+            place += 1 + r;
+        }
+        CHECKS.due("11: it collects nothing", heap.count(2), 0);
     }
 
     private static void stateRefuses() {
