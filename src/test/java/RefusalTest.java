@@ -1,6 +1,7 @@
 /**
  * "Bad", "Missing" and FULL, in each call that can refuse, and "A refused call changes nothing, but that it
- * may have COLLECTED": after each refused call all of the heap is as in a twin that had no such call.
+ * may have COLLECTED": afterwards registers, counts and the contents of an object of each kind are as in a
+ * twin that had no such call. The contents of what just fills the heap would take more than 512 calls.
  */
 public final class RefusalTest {
     private static final int LINKS = 0;
@@ -59,7 +60,7 @@ public final class RefusalTest {
         return heap;
     }
 
-    private static String all(HeapPress heap) {
+    private static String registersAndContents(HeapPress heap) {
         StringBuilder text = new StringBuilder(Checks.look(heap));
         for (int r = 0; r < EMPTY; r++) {
             text.append(" | ").append(Checks.contents(heap, r, SPARE));
@@ -82,7 +83,7 @@ public final class RefusalTest {
 
     private static void dueRefused(String what, String want, HeapCall call, HeapPress heap, HeapPress twin) {
         CHECKS.due(what, Checks.outcome(() -> call.run(heap)), want);
-        CHECKS.due(what + " leaves", all(heap), all(twin));
+        CHECKS.due(what + " leaves", registersAndContents(heap), registersAndContents(twin));
     }
 
     // "Bad": "a number out of range".
@@ -204,7 +205,7 @@ public final class RefusalTest {
             CHECKS.full("weak in " + r, () -> heap.weak(x, NUMBERS));
             twin.collect();
         }
-        CHECKS.due("full weak leaves", all(heap), all(twin));
+        CHECKS.due("full weak leaves", registersAndContents(heap), registersAndContents(twin));
     }
 
     // Five cells are not reached, and none is left: one with five is a cell too large.
